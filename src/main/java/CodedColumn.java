@@ -313,7 +313,7 @@ public final class CodedColumn {
         return leastBits.get(0);
     }
 
-    /** The fewest bits of the values from this one on, when leastBits tells those of all further ones. */
+    /** The fewest bits of the values from this one on; leastBits has those of all behind it. */
     private int leastBitsFrom(int from) {
         int least = 0;
         trial.start();
@@ -582,15 +582,9 @@ public final class CodedColumn {
             return best;
         }
 
+        /** The size of a page that is pinned like this. */
         int sizeWhen(int pin) {
-            if (pin != NONE) {
-                return sizeBy(pin);
-            }
-            int least = sizeBy(PLAIN);
-            for (int coding = WORDS; coding <= STEPS; coding++) {
-                least = Math.min(least, sizeBy(coding));
-            }
-            return least;
+            return sizeBy(codingWhen(pin));
         }
 
         void copyFrom(PageMeasure other) {
@@ -767,8 +761,10 @@ public final class CodedColumn {
 
         int totalSize() {
             int bits = 0;
+            int first = 0;
             for (int p = 0; p < pageCount; p++) {
-                bits += sizeOf(p);
+                bits += measureValues(first, lengthOf(p)).sizeWhen(pinOf(p));
+                first += lengthOf(p);
             }
             return bits;
         }

@@ -25,6 +25,7 @@ public final class ModelTest {
         Expect expect = new Expect();
         for (int seed = 0; seed < RUNS; seed++) {
             new ModelTest(expect, seed).makeCalls();
+            new ModelTest(expect, seed).readTexts();
         }
         expect.end();
     }
@@ -105,6 +106,12 @@ public final class ModelTest {
             } else if (kind < 97) {
                 read();
             }
+        }
+    }
+
+    private void readTexts() {
+        while (calls < CALLS - 180) {
+            read();
         }
     }
 

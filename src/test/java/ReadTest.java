@@ -56,6 +56,15 @@ public final class ReadTest {
         x.undo();
         x.undo();
         expect.is(0, "about(5) without pins again", () -> x.about(5));
+        x.pin(0, 0);
+        expect.is(1, "about(5) with a pin of the first page", () -> x.about(5));
+        CodedColumn ends = Build.pages(Build.page(8, 9, 5), Build.page(7, 1023, 0, 6));
+        expect.is(0, "about(6) within a page", () -> ends.about(6));
+        expect.is(1023, "about(7) within a page", () -> ends.about(7));
+        CodedColumn turned = Build.pages(Build.page(0), Build.page(1023, 1023));
+        expect.is(0, "about(6) of the first value", () -> turned.about(6));
+        expect.is(1023, "about(7) of the last value", () -> turned.about(7));
+        expect.is(2, "about(8) with a value twice", () -> turned.about(8));
     }
 
     private static void at() {

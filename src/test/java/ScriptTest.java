@@ -8,6 +8,7 @@ public final class ScriptTest {
     public static void main(String[] args) {
         arguments();
         commands();
+        chains();
         fullColumn();
         copies();
         simulate();
@@ -60,6 +61,27 @@ public final class ScriptTest {
         for (long script : fail) {
             runs(x, 0, 1, script);
         }
+    }
+
+    /** What a command has changed, the next one finds. */
+    private static void chains() {
+        CodedColumn x = Build.pages(p(7, 7, 7), p(500), p(20, 30));
+        runs(x, NONE, 2, 100123901230L);
+        runs(x, 1, 2, 100123901240L);
+        runs(x, NONE, 2, 201501905010L);
+        runs(x, 1, 2, 201501905020L);
+        runs(x, 1, 2, 303000905000L);
+        runs(x, NONE, 3, 303000900200814000L);
+        runs(x, 2, 3, 303000900200824000L);
+        runs(x, NONE, 3, 400200801000810000L);
+        runs(x, NONE, 2, 400200834000L);
+        runs(x, NONE, 2, 510000810000L);
+        runs(x, 1, 2, 510000820000L);
+        runs(x, 0, 2, 700063700064L);
+        runs(x, NONE, 1, 700064);
+        // 7 7 7 500 are 35 bits as words, 20 30 are 26 by steps.
+        runs(x, NONE, 2, 600000700061L);
+        runs(x, 1, 2, 600000700060L);
     }
 
     private static void fullColumn() {
@@ -128,7 +150,10 @@ public final class ScriptTest {
         expect.is(21 + 9 * 2, "the bits of 0 to 9 behind compact()", () -> compacted);
     }
 
-    /** The four kinds of values: what was simulated is seen in the size of the last page. */
+    /**
+     * The four kinds of values. What was simulated shows only in the size of the page; pinned to
+     * small numbers, and with every other value at its side, no two values can be mixed up.
+     */
     private static void simulateNear() {
         int[][] rows = {
             // r, the last value, what comes
@@ -138,17 +163,48 @@ public final class ScriptTest {
             {4 * 7 + 3, 100, 93}, {4 * 8 + 3, 100, 100}, {4 * 7 + 3, 5, 0}, {2147483647, 300, 293},
         };
         for (int[] row : rows) {
-            CodedColumn x = Build.pages(p(0), p(row[1], row[1], row[1]));
-            x.pin(1, 3);
-            CodedColumn added = Build.pages(p(0), p(row[1], row[1], row[1], row[2]));
-            added.pin(1, 3);
-            expect.is(10 * added.about(3) + 2, "simulate of r = " + row[0] + " behind " + row[1],
-                () -> x.simulate(seedFor(row[0]), 1));
+            long seed = seedFor(row[0]);
+            for (int other = 0; other < 1024; other += 3) {
+                CodedColumn x = Build.pages(p(0), p(other, row[1]));
+                x.pin(1, 3);
+                CodedColumn added = Build.pages(p(0), p(other, row[1], row[2]));
+                added.pin(1, 3);
+                expect.is(10 * added.about(3) + 2, "simulate of r = " + row[0] + " behind " + other + ", " + row[1],
+                    () -> x.simulate(seed, 1));
+            }
         }
         CodedColumn empty = new CodedColumn();
         for (int r = 1; r <= 3; r++) {
             long seed = seedFor(r);
             expect.is(171, "simulate of r = " + r + " without values", () -> empty.simulate(seed, 1));
         }
+        simulateTwo();
+    }
+
+    private static int r(long x) {
+        return (int) (x >>> 33);
+    }
+
+    private static long step(long x) {
+        return x * 6364136223846793005L + 1442695040888963407L;
+    }
+
+    /** Two values from one seed: the first one is the last value of an empty column, 0, and then comes 2. */
+    private static void simulateTwo() {
+        long seed = 0;
+        boolean found = false;
+        while (!found) {
+            seed++;
+            long first = step(seed);
+            long second = step(first);
+            found = r(first) % 4 == 1 && r(second) % 4 == 0 && r(second) / 4 % 1024 == 2;
+        }
+        long from = seed;
+        CodedColumn empty = new CodedColumn();
+        // 0 and 2 are 21 + 3 bits by steps, and more by all other codings.
+        expect.is(10 * (21 + 3) + 1, "simulate(" + from + ", 2) without values", () -> empty.simulate(from, 2));
+        CodedColumn one = Build.pages(p(2));
+        // 2, 2 and 2 are 21 bits as words.
+        expect.is(10 * 21 + 1, "simulate(" + from + ", 2) behind one value", () -> one.simulate(from, 2));
     }
 }

@@ -87,6 +87,15 @@ public final class WouldBeTest {
             most.add(7 + i / 60);
         }
         expect.is(210, "smallest() of 120 values", most::smallest);
+        most.put(119, 500);
+        // Nine pages of twelve, and two runs: eleven times 8, and 500.
+        expect.is(9 * 21 + 35, "smallest() of 120 values, the last one another", most::smallest);
+        x.remove(6);
+        expect.is(35, "smallest() with one value less", x::smallest);
+        for (int i = 5; i >= 1; i--) {
+            x.remove(i);
+        }
+        expect.is(17, "smallest() with one value left", x::smallest);
         CodedColumn ten = Build.pages(p(0), p(1023), p(0), p(1023), p(0), p(1023), p(0), p(1023), p(0), p(1023));
         // Two words, and one bit for each value.
         expect.is(31 + 10, "smallest() of 0 and 1023 by turns", ten::smallest);
