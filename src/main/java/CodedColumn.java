@@ -41,7 +41,7 @@ public final class CodedColumn {
 
     // What follows is only room to work in: kept so that no call makes an object.
     private final Column copy = new Column();
-    private final Script commands = new Script(copy);
+    private final Script commands = new Script();
     private final PageMeasure trial = new PageMeasure();
     private final Row leastBits = new Row(COLUMN_ROOM + 1);
     private final Row groups = new Row(MOST_COMMANDS);
@@ -364,7 +364,7 @@ public final class CodedColumn {
         if (rest != 0) {
             throw new IllegalArgumentException("a script has at most six digits for each command");
         }
-        copy.copyFrom(column);
+        commands.startFrom(column);
         for (int i = 0; i < n; i++) {
             if (!commands.succeeds(groups.get(i))) {
                 return i;
@@ -1226,12 +1226,12 @@ public final class CodedColumn {
         }
     }
 
-    /** Carries out the commands of a script on a column. */
+    /** Carries out the commands of a script on a copy of a column. */
     private static final class Script {
-        private final Column column;
+        private final Column column = new Column();
 
-        Script(Column column) {
-            this.column = column;
+        void startFrom(Column other) {
+            column.copyFrom(other);
         }
 
         /** Whether the command succeeds that the six digits of this group tell. */

@@ -326,9 +326,8 @@ public final class ActionTest {
 
     private static void remembers(CodedColumn x, int more, String call, Expect.Call made) {
         Expect.outcome(made);
-        CodedColumn count = x;
         int left = 0;
-        while (!Expect.outcome(count::undo).equals("IllegalStateException")) {
+        while (left <= 14 && !Expect.outcome(x::undo).equals("IllegalStateException")) {
             left++;
         }
         expect.tell("the states remembered by " + call, String.valueOf(more), String.valueOf(left));

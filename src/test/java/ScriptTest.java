@@ -164,7 +164,7 @@ public final class ScriptTest {
         };
         for (int[] row : rows) {
             long seed = seedFor(row[0]);
-            for (int other = 0; other < 1024; other += 3) {
+            for (int other = 0; other < 1024; other++) {
                 CodedColumn x = Build.pages(p(0), p(other, row[1]));
                 x.pin(1, 3);
                 CodedColumn added = Build.pages(p(0), p(other, row[1], row[2]));
