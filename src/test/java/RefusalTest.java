@@ -304,6 +304,11 @@ public final class RefusalTest {
             tellsOnly("bestNext(0)", made, x -> x.bestNext(0));
             tellsOnly("runScript that succeeds", made, x -> x.runScript(3, 500000200777600000L));
             tellsOnly("runScript that fails", made, x -> x.runScript(3, 300000500000999999L));
+            long[] commands = {100005, 200777, 300000, 400100, 490100, 500000, 600000, 709999, 800000, 900070};
+            for (long command : commands) {
+                tellsOnly("runScript(1, " + command + ")", made, x -> x.runScript(1, command));
+            }
+            tellsOnly("simulate(5, 1)", made, x -> x.simulate(5, 1));
             tellsOnly("simulate(5, 99)", made, x -> x.simulate(5, 99));
         }
     }

@@ -22,6 +22,7 @@ public final class UndoTest {
         oldestIsForgotten();
         roundAndRound();
         textIsNotOfTheState();
+        textLeavesAllElse();
         slotsAreNotOfTheState();
         restoreIsNotAnAction();
         restoreForgetsAll();
@@ -189,6 +190,31 @@ public final class UndoTest {
         x.restore(0);
         expect.is(NONE, "errorPosition() behind restore()", x::errorPosition);
         expect.is(17, "clearText() behind restore()", x::clearText);
+    }
+
+    /** append, clearText and errorPosition are no actions, and neither states nor slots are theirs. */
+    private static void textLeavesAllElse() {
+        Asked[] calls = {x -> x.append('0'), CodedColumn::errorPosition, CodedColumn::clearText};
+        for (Asked call : calls) {
+            for (int slot = 0; slot < 2; slot++) {
+                int other = 1 - slot;
+                CodedColumn x = new CodedColumn();
+                x.save(slot);
+                x.add(1);
+                x.add(2);
+                call.of(x);
+                expect.tell("the column behind a call of the text", "limit 8 [1 2]", Trace.state(x));
+                expect.is(1, "undo() behind a call of the text", x::undo);
+                expect.is(0, "undo() again", x::undo);
+                expect.fails(STATE, "the third undo()", x::undo);
+                call.of(x);
+                x.add(3);
+                call.of(x);
+                expect.fails(STATE, "restore(" + other + ") of nothing", () -> x.restore(other));
+                int kept = slot;
+                expect.is(0, "restore(" + slot + ") behind a call of the text", () -> x.restore(kept));
+            }
+        }
     }
 
     /** "... and the save slots" */
